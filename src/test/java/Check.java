@@ -1,0 +1,63 @@
+/** Counts what the tests of one main method find, and ends it with exit code 1 if something was wrong. */
+final class Check {
+    private int passed;
+    private int failed;
+    private String section = "";
+
+    interface Call {
+        long answer();
+    }
+
+    void section(String name) {
+        section = name;
+    }
+
+    void due(String call, long got, long want) {
+        if (got == want) {
+            passed++;
+            return;
+        }
+        failed++;
+        if (failed <= 50) {
+            System.out.println(section + ": " + call + " answered " + got + ", due is " + want);
+        }
+    }
+
+    void due(String call, String got, String want) {
+        if (!got.equals(want)) {
+            System.out.println(section + ": " + call + " is " + got + ", due is " + want);
+        }
+        due(call + " is " + want, got.equals(want) ? 1 : 0, 1);
+    }
+
+    void due(String call, boolean got, boolean want) {
+        due(call, got ? 1 : 0, want ? 1 : 0);
+    }
+
+    /** The call must throw just this class, by a throw of the program's own and not by the machine. */
+    void dueThrow(String call, Class<?> want, Call made) {
+        String got = "nothing";
+        try {
+            made.answer();
+        } catch (RuntimeException thrown) {
+            got = byMachine(thrown) ? "the machine's " + thrown : thrown.getClass().getName();
+        }
+        if (!got.equals(want.getName())) {
+            System.out.println(section + ": " + call + " threw " + got);
+        }
+        due(call + " throws " + want.getName(), got.equals(want.getName()) ? 1 : 0, 1);
+    }
+
+    /** The machine's own exceptions tell the index or the length; the program's texts never hold a digit there. */
+    static boolean byMachine(RuntimeException thrown) {
+        String text = thrown.getMessage();
+        return text == null || text.startsWith("Index ") || text.startsWith("-") || text.equals("/ by zero");
+    }
+
+    void end(String name) {
+        System.out.println(name + ": " + passed + " answers as due, " + failed + " not");
+        if (failed != 0) {
+            System.exit(1);
+        }
+    }
+}
