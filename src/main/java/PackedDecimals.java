@@ -314,11 +314,20 @@ public final class PackedDecimals {
         final Natural over = new Natural();
         final Natural under = new Natural();
 
+        void sign(boolean minus) {
+            negative = minus && !over.isZero();
+        }
+
+        void becomeOver(Natural size, boolean minus) {
+            over.copy(size);
+            sign(minus);
+        }
+
         void becomeWhole(long value) {
-            negative = value < 0;
             // Read without a sign, the lowest long's complement is its size, too.
             over.become(value < 0 ? -value : value);
             under.become(1);
+            sign(value < 0);
         }
     }
 
@@ -339,7 +348,7 @@ public final class PackedDecimals {
             if (!numeral.floating()) {
                 value.under.timesTenTo(numeral.scale);
             }
-            value.negative = value.negative && !value.over.isZero();
+            value.sign(value.negative);
             return good;
         }
 
@@ -560,26 +569,22 @@ public final class PackedDecimals {
         void add(Fraction a, Fraction b, boolean negativeB, Fraction outcome) {
             cross(a, b);
             outcome.under.becomeProduct(a.under, b.under);
-            boolean leftIsLess = left.against(right) < 0;
             if (a.negative == negativeB) {
                 left.plus(right);
-                outcome.negative = a.negative;
-            } else if (leftIsLess) {
+                outcome.becomeOver(left, a.negative);
+            } else if (left.against(right) < 0) {
                 right.minus(left);
-                outcome.negative = negativeB;
+                outcome.becomeOver(right, negativeB);
             } else {
                 left.minus(right);
-                outcome.negative = a.negative;
+                outcome.becomeOver(left, a.negative);
             }
-            outcome.over.copy(a.negative != negativeB && leftIsLess ? right : left);
-            settleZero(outcome);
         }
 
         void multiply(Fraction a, Fraction b, Fraction outcome) {
             outcome.over.becomeProduct(a.over, b.over);
             outcome.under.becomeProduct(a.under, b.under);
-            outcome.negative = a.negative != b.negative;
-            settleZero(outcome);
+            outcome.sign(a.negative != b.negative);
         }
 
         /** a / b; false if b is 0. */
@@ -589,8 +594,7 @@ public final class PackedDecimals {
             }
             outcome.over.becomeProduct(a.over, b.under);
             outcome.under.becomeProduct(a.under, b.over);
-            outcome.negative = a.negative != b.negative;
-            settleZero(outcome);
+            outcome.sign(a.negative != b.negative);
             return true;
         }
 
@@ -601,20 +605,17 @@ public final class PackedDecimals {
             }
             cross(a, b);
             left.divide(right, quotient, spare);
-            outcome.over.copy(left);
+            outcome.becomeOver(left, a.negative);
             outcome.under.becomeProduct(a.under, b.under);
-            outcome.negative = a.negative;
-            settleZero(outcome);
             return true;
         }
 
         /** a times 10 to the power. */
         void shift(Fraction a, int power, Fraction outcome) {
-            outcome.over.copy(a.over);
+            outcome.becomeOver(a.over, a.negative);
             outcome.under.copy(a.under);
             outcome.over.timesTenTo(power);
             outcome.under.timesTenTo(-power);
-            outcome.negative = a.negative;
         }
 
         boolean divideWhole(Fraction a, Fraction b, Fraction outcome) {
@@ -655,20 +656,11 @@ public final class PackedDecimals {
             left.becomeProduct(a.over, b.under);
             right.becomeProduct(b.over, a.under);
         }
-
-        private static void settleZero(Fraction outcome) {
-            if (outcome.over.isZero()) {
-                outcome.negative = false;
-            }
-        }
     }
 
     /** Brings values into numbers: storing, which rounds and finds size errors, and moving, which cuts. */
     private static final class Storage {
         private static final long TOO_GREAT = -1;
-        // A size of 2 to this or more is above 10 to the 31, one of less than 2 to its opposite below
-        // 10 to the -31, rounded or not: only between them bits are made.
-        private static final int MOST_EXPONENT = 104;
 
         private final Writer writer = new Writer();
         private final Natural whole = new Natural();
@@ -789,18 +781,11 @@ public final class PackedDecimals {
             }
             int precision = Floating.precision(numeral);
             int exponent = scaleTo(precision + 1, value);
-            long scaled = whole.lowBits();
             int extra = whole.bitLength() - precision;
-            if (extra < 1 || extra > 2) {
-                return TOO_GREAT;
-            }
-            int top = exponent + extra + precision - 1;
-            if (top < -MOST_EXPONENT || top > MOST_EXPONENT) {
-                return top < 0 ? 0 : TOO_GREAT;
-            }
-            // A fraction that rounds up to the next power of two carries into the exponent by itself.
-            long bits = roundOff(scaled, extra) - (1L << precision - 1)
-                    + ((long) (top + Floating.bias(numeral)) << precision - 1);
+            long biased = exponent + extra + precision - 1 + Floating.bias(numeral);
+            // What rounds up to the next power of two carries into the exponent by itself. An exponent
+            // that the form does not have makes bits below or above those of all valid sizes, too.
+            long bits = (biased << precision - 1) + roundOff(extra) - (1L << precision - 1);
             if (Floating.tooGreat(numeral, bits)) {
                 return TOO_GREAT;
             }
@@ -822,8 +807,9 @@ public final class PackedDecimals {
             return exponent;
         }
 
-        /** Takes the extra bits off, to the nearest, halves to the even one. */
-        private long roundOff(long scaled, int extra) {
+        /** Whole without its extra bits (one or two), to the nearest, halves to the even one. */
+        private long roundOff(int extra) {
+            long scaled = whole.lowBits();
             long kept = scaled >> extra;
             long tail = scaled - (kept << extra);
             long middle = 1L << extra - 1;
