@@ -12,6 +12,18 @@ final class Check {
         section = name;
     }
 
+    /** One sentence of the document with the test that is its own; what it throws does not stop the others. */
+    void sentence(String words, Runnable test) {
+        section = words;
+        int before = passed + failed;
+        try {
+            test.run();
+        } catch (RuntimeException thrown) {
+            due("the test threw " + thrown, false, true);
+        }
+        due("the sentence was tested", passed + failed > before, true);
+    }
+
     void due(String call, long got, long want) {
         if (got == want) {
             passed++;

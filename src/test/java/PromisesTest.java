@@ -5,33 +5,12 @@ public final class PromisesTest {
     private static final Class<?> NEGATIVE = NegativeArraySizeException.class;
     private static final Class<?> ARITHMETIC = ArithmeticException.class;
 
-    private static void load(PackedDecimals x, int number, String hex) {
-        for (int i = 0; i < hex.length() / 2; i++) {
-            x.octet(number, i, (byte) Integer.parseInt(hex.substring(2 * i, 2 * i + 2), 16));
-        }
-    }
-
-    private static String bytes(PackedDecimals x, int number) {
-        StringBuilder hex = new StringBuilder();
-        for (int i = 0; i < x.size(number); i++) {
-            hex.append(String.format("%02X", x.at(number, i) & 255));
-        }
-        return hex.toString();
-    }
-
-    /** A new number with these bytes. */
-    private static int made(PackedDecimals x, int usage, int digits, int scale, String hex) {
-        int number = x.number(usage, digits, scale);
-        load(x, number, hex);
-        return number;
-    }
-
     private static void dueValid(int usage, int digits, String hex, boolean want) {
         PackedDecimals x = new PackedDecimals();
-        int number = made(x, usage, digits, 0, hex);
+        int number = Bytes.made(x, usage, digits, 0, hex);
         CHECK.due("size of usage " + usage + ", " + digits, x.size(number), hex.length() / 2);
         CHECK.due("valid: usage " + usage + ", " + digits + " digits, " + hex, x.valid(number), want);
-        CHECK.due("bytes are left alone", bytes(x, number), hex);
+        CHECK.due("bytes are left alone", Bytes.of(x, number), hex);
     }
 
     private static void promise1() {
@@ -59,7 +38,7 @@ public final class PromisesTest {
         }
         CHECK.due("the 65th", x.number(0, 1, 0), PackedDecimals.NONE);
         CHECK.dueThrow("digits -1 as the 65th", NEGATIVE, () -> x.number(0, -1, 0));
-        CHECK.due("bytes at first", bytes(x, 0), "00");
+        CHECK.due("bytes at first", Bytes.of(x, 0), "00");
         CHECK.due("rounding at first", x.round(0, 0), 0);
     }
 
@@ -73,7 +52,7 @@ public final class PromisesTest {
         CHECK.due("at(a, 0)", x.at(a, 0), -128);
         CHECK.due("at(a, 1)", x.at(a, 1), 0);
         CHECK.due("at(a, 2)", x.at(a, 2), 127);
-        CHECK.due("the other number", bytes(x, b), "00000000");
+        CHECK.due("the other number", Bytes.of(x, b), "00000000");
         int[][] wrong = {{a, -1}, {a, 3}, {b, 4}, {-1, 0}, {2, 0}, {64, 0}, {Integer.MIN_VALUE, 0},
             {a, Integer.MAX_VALUE}, {a, Integer.MIN_VALUE}};
         for (int[] w : wrong) {
@@ -83,7 +62,7 @@ public final class PromisesTest {
                 return 0;
             });
         }
-        CHECK.due("bytes after wrong calls", bytes(x, a), "80007F");
+        CHECK.due("bytes after wrong calls", Bytes.of(x, a), "80007F");
     }
 
     private static void promise5() {
@@ -103,13 +82,13 @@ public final class PromisesTest {
     /** op on a and b (packed, of 15 digits and scale 2, in hundredths), stored in a new number of a usage. */
     private static void dueApply(int op, long a, long b, int[] into, int answer, String hex) {
         PackedDecimals x = new PackedDecimals();
-        int left = made(x, 5, 15, 2, String.format("%015d", Math.abs(a)) + (a < 0 ? "D" : "C"));
-        int right = made(x, 5, 15, 2, String.format("%015d", Math.abs(b)) + (b < 0 ? "D" : "C"));
+        int left = Bytes.made(x, 5, 15, 2, String.format("%015d", Math.abs(a)) + (a < 0 ? "D" : "C"));
+        int right = Bytes.made(x, 5, 15, 2, String.format("%015d", Math.abs(b)) + (b < 0 ? "D" : "C"));
         int target = x.number(into[0], into[1], into[2]);
         x.round(target, into[3]);
         String call = "op " + op + " of " + a + " and " + b + " into " + java.util.Arrays.toString(into);
         CHECK.due(call, x.apply(op, left, op == 5 ? (int) b : right, target), answer);
-        CHECK.due(call + ": bytes", bytes(x, target), hex);
+        CHECK.due(call + ": bytes", Bytes.of(x, target), hex);
     }
 
     private static void promise6Operations() {
@@ -225,11 +204,11 @@ public final class PromisesTest {
     private static void promise6Orders() {
         CHECK.section("promise 6, what goes ahead");
         PackedDecimals x = new PackedDecimals();
-        int one = made(x, 5, 1, 0, "1C");
-        int zero = made(x, 5, 1, 0, "0C");
-        int tenth = made(x, 5, 1, 1, "1D");
-        int bad = made(x, 5, 1, 0, "00");
-        int into = made(x, 5, 1, 0, "7D");
+        int one = Bytes.made(x, 5, 1, 0, "1C");
+        int zero = Bytes.made(x, 5, 1, 0, "0C");
+        int tenth = Bytes.made(x, 5, 1, 1, "1D");
+        int bad = Bytes.made(x, 5, 1, 0, "00");
+        int into = Bytes.made(x, 5, 1, 0, "7D");
         CHECK.dueThrow("no a", BOUNDS, () -> x.apply(9, 5, one, into));
         CHECK.dueThrow("no b", BOUNDS, () -> x.apply(9, one, -1, into));
         CHECK.dueThrow("no into", BOUNDS, () -> x.apply(9, one, one, 5));
@@ -239,7 +218,7 @@ public final class PromisesTest {
         CHECK.due("wrong op, not valid", x.apply(8, bad, bad, into), -2);
         CHECK.due("wrong count, not valid", x.apply(5, bad, Integer.MIN_VALUE, into), -2);
         CHECK.due("count that is no number", x.apply(5, zero, 40, into), 1);
-        CHECK.due("its bytes", bytes(x, into), "0C");
+        CHECK.due("its bytes", Bytes.of(x, into), "0C");
         for (int op = 0; op < 8; op++) {
             int wrong = op;
             CHECK.due("a not valid, op " + op, x.apply(op, bad, zero, into), PackedDecimals.NONE);
@@ -251,48 +230,48 @@ public final class PromisesTest {
                 CHECK.dueThrow("zero, op " + op, ARITHMETIC, () -> x.apply(wrong, one, zero, into));
             }
         }
-        CHECK.due("bytes left alone", bytes(x, into), "0C");
+        CHECK.due("bytes left alone", Bytes.of(x, into), "0C");
         CHECK.due("into not valid", x.apply(0, one, one, bad), 1);
-        CHECK.due("its bytes", bytes(x, bad), "2C");
+        CHECK.due("its bytes", Bytes.of(x, bad), "2C");
         CHECK.due("all the same number", x.apply(0, bad, bad, bad), 1);
-        CHECK.due("its bytes", bytes(x, bad), "4C");
+        CHECK.due("its bytes", Bytes.of(x, bad), "4C");
     }
 
     private static void promise6WholeParts() {
         CHECK.section("promise 6, lowest 64 bits");
         PackedDecimals x = new PackedDecimals();
-        int least = made(x, 8, 18, 0, "8000000000000000");
-        int minusOne = made(x, 8, 18, 0, "FFFFFFFFFFFFFFFF");
-        int above = made(x, 8, 31, 0, "00000000000000010000000000000000");
-        int aboveAndFive = made(x, 8, 31, 0, "00000000000000010000000000000005");
+        int least = Bytes.made(x, 8, 18, 0, "8000000000000000");
+        int minusOne = Bytes.made(x, 8, 18, 0, "FFFFFFFFFFFFFFFF");
+        int above = Bytes.made(x, 8, 31, 0, "00000000000000010000000000000000");
+        int aboveAndFive = Bytes.made(x, 8, 31, 0, "00000000000000010000000000000005");
         int into = x.number(8, 31, 0);
         CHECK.due("the least by -1", x.apply(4, least, minusOne, into), 1);
-        CHECK.due("its bytes", bytes(x, into), "FFFFFFFFFFFFFFFF8000000000000000");
+        CHECK.due("its bytes", Bytes.of(x, into), "FFFFFFFFFFFFFFFF8000000000000000");
         CHECK.due("its remainder", x.apply(7, least, minusOne, into), 1);
-        CHECK.due("its bytes", bytes(x, into), "00000000000000000000000000000000");
+        CHECK.due("its bytes", Bytes.of(x, into), "00000000000000000000000000000000");
         CHECK.dueThrow("2 to the 64", ARITHMETIC, () -> x.apply(4, least, above, into));
         CHECK.due("2 to the 64 and 5", x.apply(4, aboveAndFive, minusOne, into), 1);
-        CHECK.due("its bytes", bytes(x, into), "FFFFFFFFFFFFFFFFFFFFFFFFFFFFFFFB");
+        CHECK.due("its bytes", Bytes.of(x, into), "FFFFFFFFFFFFFFFFFFFFFFFFFFFFFFFB");
         CHECK.due("the least by 5", x.apply(7, least, aboveAndFive, into), 1);
-        CHECK.due("its bytes", bytes(x, into), "FFFFFFFFFFFFFFFFFFFFFFFFFFFFFFFD");
+        CHECK.due("its bytes", Bytes.of(x, into), "FFFFFFFFFFFFFFFFFFFFFFFFFFFFFFFD");
         // A divisor for which the guess by its highest limbs is one too great.
-        int high = made(x, 8, 31, 0, "07FFFFFFF00000000000000000000000");
-        int low = made(x, 8, 31, 0, "00000000100000000000000000000001");
+        int high = Bytes.made(x, 8, 31, 0, "07FFFFFFF00000000000000000000000");
+        int low = Bytes.made(x, 8, 31, 0, "00000000100000000000000000000001");
         CHECK.due("a close guess", x.apply(3, high, low, into), 1);
-        CHECK.due("its bytes", bytes(x, into), "0000000000000000000000007FFFFFFE");
+        CHECK.due("its bytes", Bytes.of(x, into), "0000000000000000000000007FFFFFFE");
     }
 
     private static void promise7() {
         CHECK.section("promise 7");
         PackedDecimals x = new PackedDecimals();
-        int a = made(x, 0, 3, 1, "F1F2D5");
-        int b = made(x, 10, 1, 0, "C029000000000000");
-        int c = made(x, 5, 3, 0, "012C");
-        int d = made(x, 11, 1, 0, "0030002D");
-        int e = made(x, 7, 1, 1, "0000");
-        int bad = made(x, 7, 1, 1, "000A");
-        int tenth = made(x, 5, 1, 1, "1C");
-        int nearTenth = made(x, 10, 1, 0, "3FB999999999999A");
+        int a = Bytes.made(x, 0, 3, 1, "F1F2D5");
+        int b = Bytes.made(x, 10, 1, 0, "C029000000000000");
+        int c = Bytes.made(x, 5, 3, 0, "012C");
+        int d = Bytes.made(x, 11, 1, 0, "0030002D");
+        int e = Bytes.made(x, 7, 1, 1, "0000");
+        int bad = Bytes.made(x, 7, 1, 1, "000A");
+        int tenth = Bytes.made(x, 5, 1, 1, "1C");
+        int nearTenth = Bytes.made(x, 10, 1, 0, "3FB999999999999A");
         CHECK.due("-12.5 and -12.5", x.compare(a, b), 0);
         CHECK.due("-12.5 and 12", x.compare(a, c), -1);
         CHECK.due("12 and -12.5", x.compare(c, b), 1);
@@ -301,8 +280,8 @@ public final class PromisesTest {
         CHECK.due("itself", x.compare(c, c), 0);
         CHECK.due("0.1 and the double next to it", x.compare(tenth, nearTenth), -1);
         CHECK.due("that and 0.1", x.compare(nearTenth, tenth), 1);
-        load(x, nearTenth, "BFB999999999999A");
-        load(x, tenth, "1D");
+        Bytes.load(x, nearTenth, "BFB999999999999A");
+        Bytes.load(x, tenth, "1D");
         CHECK.due("both negative", x.compare(tenth, nearTenth), 1);
         CHECK.due("not valid", x.compare(bad, a), -2);
         CHECK.due("not valid", x.compare(a, bad), -2);
@@ -386,12 +365,12 @@ public final class PromisesTest {
 
     private static void dueConvert(int[] from, String hex, int[] to, int answer, String want) {
         PackedDecimals x = new PackedDecimals();
-        int source = made(x, from[0], from[1], from[2], hex);
+        int source = Bytes.made(x, from[0], from[1], from[2], hex);
         int target = x.number(to[0], to[1], to[2]);
         String call = "convert " + hex + " into " + java.util.Arrays.toString(to);
         CHECK.due(call, x.convert(source, target), answer);
-        CHECK.due(call + ": bytes", bytes(x, target), want);
-        CHECK.due(call + ": the source", bytes(x, source), hex);
+        CHECK.due(call + ": bytes", Bytes.of(x, target), want);
+        CHECK.due(call + ": the source", Bytes.of(x, source), hex);
     }
 
     private static void promise9() {
@@ -433,23 +412,23 @@ public final class PromisesTest {
     private static void promise9Rest() {
         CHECK.section("promise 9, the rest");
         PackedDecimals x = new PackedDecimals();
-        int a = made(x, 5, 3, 1, "999C");
-        int b = made(x, 5, 1, 0, "00");
+        int a = Bytes.made(x, 5, 3, 1, "999C");
+        int b = Bytes.made(x, 5, 1, 0, "00");
         CHECK.due("rounding does not matter", x.round(b, 4), 0);
         CHECK.due("into one that is not valid", x.convert(a, b), 0);
-        CHECK.due("its bytes", bytes(x, b), "9C");
-        load(x, a, "999B");
+        CHECK.due("its bytes", Bytes.of(x, b), "9C");
+        Bytes.load(x, a, "999B");
         CHECK.due("into itself", x.convert(a, a), 1);
-        CHECK.due("its bytes", bytes(x, a), "999D");
-        load(x, a, "9999");
+        CHECK.due("its bytes", Bytes.of(x, a), "999D");
+        Bytes.load(x, a, "9999");
         CHECK.due("not valid", x.convert(a, b), PackedDecimals.NONE);
-        CHECK.due("bytes left alone", bytes(x, b), "9C");
+        CHECK.due("bytes left alone", Bytes.of(x, b), "9C");
         int f = x.number(9, 1, 0);
         x.round(f, 7);
-        CHECK.due("rounding 7 does not matter", x.convert(made(x, 5, 1, 1, "1C"), f), 0);
-        CHECK.due("its bytes", bytes(x, f), "3DCCCCCD");
-        CHECK.due("too great", x.convert(made(x, 8, 31, 0, "40000000000000000000000000000000"), f), 0);
-        CHECK.due("bytes left alone", bytes(x, f), "3DCCCCCD");
+        CHECK.due("rounding 7 does not matter", x.convert(Bytes.made(x, 5, 1, 1, "1C"), f), 0);
+        CHECK.due("its bytes", Bytes.of(x, f), "3DCCCCCD");
+        CHECK.due("too great", x.convert(Bytes.made(x, 8, 31, 0, "40000000000000000000000000000000"), f), 0);
+        CHECK.due("bytes left alone", Bytes.of(x, f), "3DCCCCCD");
         CHECK.dueThrow("no such number", BOUNDS, () -> x.convert(a, 9));
         CHECK.dueThrow("no such number", BOUNDS, () -> x.convert(9, b));
     }
@@ -457,8 +436,8 @@ public final class PromisesTest {
     private static void promise10() {
         CHECK.section("promise 10");
         PackedDecimals x = new PackedDecimals();
-        int a = made(x, 0, 5, 2, "F1F2F3F4D5");
-        int least = made(x, 8, 31, 0, "80000000000000000000000000000000");
+        int a = Bytes.made(x, 0, 5, 2, "F1F2F3F4D5");
+        int least = Bytes.made(x, 8, 31, 0, "80000000000000000000000000000000");
         String digits = "170141183460469231731687303715884105728";
         for (int i = 0; i < 39; i++) {
             CHECK.due("digit " + i, x.digit(a, i), i < 5 ? 5 - i : 0);
@@ -467,9 +446,9 @@ public final class PromisesTest {
         for (int i : new int[] {-1, 39, Integer.MIN_VALUE, Integer.MAX_VALUE}) {
             CHECK.due("digit " + i, x.digit(a, i), PackedDecimals.NONE);
         }
-        CHECK.due("of a float", x.digit(made(x, 9, 1, 0, "3F800000"), 0), PackedDecimals.NONE);
-        CHECK.due("of a double", x.digit(made(x, 10, 1, 0, "3FF0000000000000"), 0), PackedDecimals.NONE);
-        CHECK.due("of one that is not valid", x.digit(made(x, 5, 1, 0, "11"), 0), PackedDecimals.NONE);
+        CHECK.due("of a float", x.digit(Bytes.made(x, 9, 1, 0, "3F800000"), 0), PackedDecimals.NONE);
+        CHECK.due("of a double", x.digit(Bytes.made(x, 10, 1, 0, "3FF0000000000000"), 0), PackedDecimals.NONE);
+        CHECK.due("of one that is not valid", x.digit(Bytes.made(x, 5, 1, 0, "11"), 0), PackedDecimals.NONE);
         CHECK.dueThrow("no such number", BOUNDS, () -> x.digit(5, 39));
         CHECK.dueThrow("no such number", BOUNDS, () -> x.digit(-1, 0));
     }
@@ -494,16 +473,16 @@ public final class PromisesTest {
     private static void promise12() {
         CHECK.section("promise 12");
         PackedDecimals x = new PackedDecimals();
-        CHECK.due("-123.45", x.half(made(x, 5, 5, 2, "12345D")), -123);
-        CHECK.due("-0.99", x.half(made(x, 5, 3, 2, "099D")), 0);
-        CHECK.due("32768", x.half(made(x, 4, 5, 0, "F3F2F7F6F8")), -32768);
-        CHECK.due("-32769", x.half(made(x, 7, 5, 0, "FFFF7FFF")), 32767);
-        CHECK.due("65535", x.half(made(x, 11, 5, 0, "00360035003500330035002B")), -1);
-        CHECK.due("2.5", x.half(made(x, 9, 1, 0, "40200000")), 2);
-        CHECK.due("a double of 2 to the 100", x.half(made(x, 10, 1, 0, "4630000000000000")), 0);
-        CHECK.due("a double of -65537", x.half(made(x, 10, 1, 0, "C0F0001000000000")), -1);
-        CHECK.due("10 to the 31 less 1", x.half(made(x, 7, 31, 0, "0000007E37BE2022C0914B267FFFFFFF")), -1);
-        CHECK.due("not valid", x.half(made(x, 5, 1, 0, "11")), 0);
+        CHECK.due("-123.45", x.half(Bytes.made(x, 5, 5, 2, "12345D")), -123);
+        CHECK.due("-0.99", x.half(Bytes.made(x, 5, 3, 2, "099D")), 0);
+        CHECK.due("32768", x.half(Bytes.made(x, 4, 5, 0, "F3F2F7F6F8")), -32768);
+        CHECK.due("-32769", x.half(Bytes.made(x, 7, 5, 0, "FFFF7FFF")), 32767);
+        CHECK.due("65535", x.half(Bytes.made(x, 11, 5, 0, "00360035003500330035002B")), -1);
+        CHECK.due("2.5", x.half(Bytes.made(x, 9, 1, 0, "40200000")), 2);
+        CHECK.due("a double of 2 to the 100", x.half(Bytes.made(x, 10, 1, 0, "4630000000000000")), 0);
+        CHECK.due("a double of -65537", x.half(Bytes.made(x, 10, 1, 0, "C0F0001000000000")), -1);
+        CHECK.due("10 to the 31 less 1", x.half(Bytes.made(x, 7, 31, 0, "0000007E37BE2022C0914B267FFFFFFF")), -1);
+        CHECK.due("not valid", x.half(Bytes.made(x, 5, 1, 0, "11")), 0);
         CHECK.dueThrow("no such number", BOUNDS, () -> x.half(10));
         CHECK.dueThrow("no such number", BOUNDS, () -> x.half(-1));
     }
