@@ -187,6 +187,7 @@ public final class BoundariesTest {
         dueApply(3, "-2", "3", into, 1, "00066D");
         dueApply(4, "-7.9", "2.9", into, 1, "00300D");
         dueApply(5, "-1.25", "2", into, 1, "12500D");
+        dueApply(5, "-125", "-2", into, 1, "00125D");
         dueApply(6, "-7.9", "2.5", into, 1, "00040D");
         dueApply(7, "-7.9", "2.9", into, 1, "00100D");
         // t is rounded to zero and to a whole number; what is left bears a's sign.
@@ -198,8 +199,9 @@ public final class BoundariesTest {
 
     private static void applySizeErrors() {
         int[] into = {5, 1, 0};
-        String[][] good = {{"0", "8", "1", "9C"}, {"1", "-8", "1", "9D"}, {"2", "-3", "3", "9D"}, {"3", "18", "2", "9C"},
-            {"4", "19", "2", "9C"}, {"5", "0.9", "1", "9C"}, {"6", "19", "10", "9C"}, {"7", "-19", "10", "9D"}};
+        String[][] good = {{"0", "8", "1", "9C"}, {"1", "-8", "1", "9D"}, {"2", "-3", "3", "9D"},
+            {"3", "18", "2", "9C"}, {"4", "19", "2", "9C"}, {"5", "0.9", "1", "9C"},
+            {"6", "19", "10", "9C"}, {"7", "-19", "10", "9D"}};
         String[][] wrong = {{"0", "8", "2"}, {"1", "-8", "2"}, {"2", "-5", "2"}, {"3", "20", "2"}, {"4", "20", "2"},
             {"5", "1", "1"}, {"6", "21", "11"}, {"7", "-21", "11"}};
         for (String[] row : good) {
@@ -369,7 +371,8 @@ public final class BoundariesTest {
         for (int zero : zeros) {
             for (int op : new int[] {4, 7}) {
                 CHECK.dueThrow("op " + op + " by number " + zero, ARITHMETIC, () -> x.apply(op, one, zero, into));
-                CHECK.dueThrow("0, op " + op + " by number " + zero, ARITHMETIC, () -> x.apply(op, zeros[0], zero, into));
+                CHECK.dueThrow("0, op " + op + " by number " + zero, ARITHMETIC,
+                        () -> x.apply(op, zeros[0], zero, into));
             }
             for (int op : new int[] {0, 1, 2, 3, 6}) {
                 CHECK.due("op " + op + " does not throw", x.apply(op, one, zero, x.number(10, 1, 0)) >= 0, true);
@@ -765,6 +768,11 @@ public final class BoundariesTest {
             Bytes.load(x, number, TWELVE[usage]);
             CHECK.due("half of usage " + usage, x.half(number), usage == 4 || usage == 6 ? 12 : -12);
         }
+        // Bytes that would have a value, and a negative one, if they were valid.
+        PackedDecimals x = new PackedDecimals();
+        CHECK.due("half of -100 in two digits", x.half(Bytes.made(x, 7, 2, 0, "FF9C")), 0);
+        CHECK.due("half of minus 1 and a letter", x.half(Bytes.made(x, 1, 2, 0, "D1FA")), 0);
+        CHECK.due("half of a float of -10 to the 32", x.half(Bytes.made(x, 9, 1, 0, "F49DC5AE")), 0);
     }
 
     private static void promises1To5() {
@@ -774,7 +782,8 @@ public final class BoundariesTest {
         CHECK.sentence("Promise 2: \"NONE when digits is not so\"", BoundariesTest::wrongDigits);
         CHECK.sentence("Promise 2: \"NONE when scale is not so\"", BoundariesTest::wrongScale);
         CHECK.sentence("Promise 2: \"or there are 64\"", BoundariesTest::sixtyFour);
-        CHECK.sentence("Promise 2: \"NegativeArraySizeException when digits is below 0\"", BoundariesTest::digitsBelowZero);
+        CHECK.sentence("Promise 2: \"NegativeArraySizeException when digits is below 0\"",
+                BoundariesTest::digitsBelowZero);
         CHECK.sentence("Promise 3: \"when there is no such number\"",
                 () -> dueNoSuchNumber("octet", (x, number) -> octet(x, number, 0, 1)));
         CHECK.sentence("Promise 3: \"when there is no such byte\"", () -> dueNoSuchByte("octet", true));

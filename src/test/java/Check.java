@@ -1,8 +1,12 @@
 /** Counts what the tests of one main method find, and ends it with exit code 1 if something was wrong. */
 final class Check {
+    /** A section that goes wrong often prints only so much, so that the others are seen, too. */
+    private static final int MOST_PRINTED = 20;
+
     private int passed;
     private int failed;
     private String section = "";
+    private int printed;
 
     interface Call {
         long answer();
@@ -10,11 +14,19 @@ final class Check {
 
     void section(String name) {
         section = name;
+        printed = 0;
+    }
+
+    private void print(String fault) {
+        printed++;
+        if (printed <= MOST_PRINTED) {
+            System.out.println(section + ": " + fault);
+        }
     }
 
     /** One sentence of the document with the test that is its own; what it throws does not stop the others. */
     void sentence(String words, Runnable test) {
-        section = words;
+        section(words);
         int before = passed + failed;
         try {
             test.run();
@@ -24,22 +36,26 @@ final class Check {
         due("the sentence was tested", passed + failed > before, true);
     }
 
+    boolean good() {
+        return failed == 0;
+    }
+
     void due(String call, long got, long want) {
         if (got == want) {
             passed++;
             return;
         }
         failed++;
-        if (failed <= 50) {
-            System.out.println(section + ": " + call + " answered " + got + ", due is " + want);
-        }
+        print(call + " answered " + got + ", due is " + want);
     }
 
     void due(String call, String got, String want) {
-        if (!got.equals(want)) {
-            System.out.println(section + ": " + call + " is " + got + ", due is " + want);
+        if (got.equals(want)) {
+            passed++;
+            return;
         }
-        due(call + " is " + want, got.equals(want) ? 1 : 0, 1);
+        failed++;
+        print(call + " is " + got + ", due is " + want);
     }
 
     void due(String call, boolean got, boolean want) {
@@ -54,10 +70,7 @@ final class Check {
         } catch (RuntimeException thrown) {
             got = byMachine(thrown) ? "the machine's " + thrown : thrown.getClass().getName();
         }
-        if (!got.equals(want.getName())) {
-            System.out.println(section + ": " + call + " threw " + got);
-        }
-        due(call + " throws " + want.getName(), got.equals(want.getName()) ? 1 : 0, 1);
+        due("what " + call + " throws", got, want.getName());
     }
 
     /** The machine's own exceptions tell the index or the length; the program's texts never hold a digit there. */

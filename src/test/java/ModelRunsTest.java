@@ -5,7 +5,12 @@ import java.util.Arrays;
 /** Many runs of calls, each answer and all bytes held against the model's. Always the same runs. */
 public final class ModelRunsTest {
     private static final Check CHECK = new Check();
+    /** What an object answers after so many calls is free. */
+    private static final int MOST_CALLS = 512;
+    /** The dearest round: 64 bytes written, a call, 64 bytes looked at, and three calls more. */
+    private static final int MOST_CALLS_A_ROUND = 132;
     private static long seed = 88172645463325252L;
+    private static int calls;
 
     private static int pick(int bound) {
         seed ^= seed << 13;
@@ -161,6 +166,7 @@ public final class ModelRunsTest {
         } catch (Model.Thrown thrown) {
             want = thrown.name;
         }
+        calls++;
         try {
             answered = step.real(real);
         } catch (RuntimeException thrown) {
@@ -175,6 +181,7 @@ public final class ModelRunsTest {
 
     private static void sameBytes(PackedDecimals real, Model model, int number, Step step) {
         Model.Item x = model.items.get(number);
+        calls += x.bytes.length;
         for (int i = 0; i < x.bytes.length; i++) {
             CHECK.due(step + " of usage " + x.usage + ", " + x.n + ", " + x.s + ", rounding " + x.rounding
                     + ", wants " + Model.hex(x.bytes) + ", byte " + i, real.at(number, i), x.bytes[i]);
@@ -198,8 +205,36 @@ public final class ModelRunsTest {
         }
     }
 
+    private static void fill(PackedDecimals real, Model model, int number) {
+        byte[] bytes = randomBytes(model.items.get(number));
+        calls += bytes.length;
+        for (int i = 0; i < bytes.length; i++) {
+            model.octet(number, i, bytes[i]);
+            real.octet(number, i, bytes[i]);
+        }
+    }
+
+    private static void round(PackedDecimals real, Model model) {
+        int count = model.items.size();
+        if (count > 0 && pick(3) > 0) {
+            fill(real, model, pick(count));
+        }
+        Step step = randomStep(count);
+        take(real, model, step);
+        int changed = step.method == 4 ? step.v[3] : step.method == 7 ? step.v[1] : -1;
+        if (changed >= 0 && changed < count) {
+            sameBytes(real, model, changed, step);
+        }
+        if (pick(30) == 0) {
+            take(real, model, new Step(1, wild(count), wild(64), pick(256)));
+            take(real, model, new Step(2, wild(count), wild(64)));
+            take(real, model, new Step(3, wild(count)));
+        }
+    }
+
     private static void run(int index) {
         CHECK.section("run " + index);
+        calls = 0;
         PackedDecimals real = new PackedDecimals();
         Model model = new Model();
         int numbers = 1 + pick(8);
@@ -208,36 +243,19 @@ public final class ModelRunsTest {
             take(real, model, new Step(0, pick(50) == 0 ? wild(12) : pick(12), pick(50) == 0 ? wild(32) : n,
                     pick(50) == 0 ? wild(32) : pick(3) == 0 ? 0 : pick(n + 1)));
         }
-        for (int i = 0; i < 120; i++) {
-            int count = model.items.size();
-            if (count > 0 && pick(3) > 0) {
-                int number = pick(count);
-                byte[] bytes = randomBytes(model.items.get(number));
-                for (int k = 0; k < bytes.length; k++) {
-                    model.octet(number, k, bytes[k]);
-                    real.octet(number, k, bytes[k]);
-                }
-            }
-            Step step = randomStep(count);
-            take(real, model, step);
-            int changed = step.method == 4 ? step.v[3] : step.method == 7 ? step.v[1] : -1;
-            if (changed >= 0 && changed < count) {
-                sameBytes(real, model, changed, step);
-            }
-            if (pick(30) == 0) {
-                take(real, model, new Step(1, wild(count), wild(64), pick(256)));
-                take(real, model, new Step(2, wild(count), wild(64)));
-                take(real, model, new Step(3, wild(count)));
-            }
+        while (calls + MOST_CALLS_A_ROUND <= MOST_CALLS) {
+            round(real, model);
         }
         for (int number = 0; number < model.items.size(); number++) {
-            sameBytes(real, model, number, new Step(3, number));
+            if (calls + model.size(number) <= MOST_CALLS) {
+                sameBytes(real, model, number, new Step(3, number));
+            }
         }
     }
 
     public static void main(String[] args) {
-        int runs = args.length > 0 ? Integer.parseInt(args[0]) : 1500;
-        for (int i = 0; i < runs; i++) {
+        int runs = args.length > 0 ? Integer.parseInt(args[0]) : 10000;
+        for (int i = 0; i < runs && CHECK.good(); i++) {
             run(i);
         }
         CHECK.end("ModelRunsTest");

@@ -433,6 +433,8 @@ public final class TermsTest {
         dueValue(8, 4, 4, "8000", "-3.2768");
         dueValue(5, 31, 31, "0".repeat(30) + "1D", "-0." + "0".repeat(30) + "1");
         dueValue(7, 31, 31, "00".repeat(15) + "01", "0." + "0".repeat(30) + "1");
+        dueStored(TIMES_TEN_TO, "0." + "0".repeat(30) + "1", "31", form(5, 1, 0), 7, "1C");
+        dueStored(TIMES_TEN_TO, "0." + "0".repeat(30) + "1", "32", form(5, 2, 0), 7, "010C");
     }
 
     private static void minusZero() {
@@ -725,14 +727,16 @@ public final class TermsTest {
         CHECK.sentence("Terms: \"(A, C, E, F plus, B, D minus; written: C, D)\"", TermsTest::packedSigns);
         CHECK.sentence("Terms: \"6 PACKED without a sign: F in its place\"", TermsTest::packedWithoutSign);
         CHECK.sentence("Terms: \"7 BINARY: 2, 4, 8, 16 bytes (n to 4, 9, 18, 31)\"", TermsTest::binarySizes);
-        CHECK.sentence("Terms: \"the highest first, negative ones as complements of two\"", TermsTest::binaryComplements);
+        CHECK.sentence("Terms: \"the highest first, negative ones as complements of two\"",
+                TermsTest::binaryComplements);
         CHECK.sentence("Terms: \"less than 10 to the n\"", TermsTest::binaryBounds);
         CHECK.sentence("Terms: \"8 WHOLE: likewise, all that the bytes hold\"", TermsTest::wholeBounds);
         CHECK.sentence("Terms: \"9 FLOAT, 10 DOUBLE: 4, 8 bytes of a binary floating number as in IEEE 754\"",
                 TermsTest::floatingBits);
         CHECK.sentence("Terms: \"0, or of a size from 10 to the -31\"", TermsTest::floatingLeast);
         CHECK.sentence("Terms: \"to less than 10 to the 31\"", TermsTest::floatingEnd);
-        CHECK.sentence("Terms: \"(n and s must be as told, too, but don't matter)\"", TermsTest::floatingDigitsAndScale);
+        CHECK.sentence("Terms: \"(n and s must be as told, too, but don't matter)\"",
+                TermsTest::floatingDigitsAndScale);
         CHECK.sentence("Terms: \"11 NATIONAL: 00 3d for each digit, then 00 2B (plus) or 00 2D (minus)\"",
                 TermsTest::national);
         CHECK.sentence("Terms: \"its VALUE is its whole number divided by 10 to the s\"", TermsTest::valuesByScale);
